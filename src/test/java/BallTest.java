@@ -81,6 +81,11 @@ public final class BallTest {
 
     private static void weighed() {
         ClayHouse x = new ClayHouse();
+        Due.is("weighed 1", x.tell(0, 1, 1), true);
+        Due.is("all weigh 1 at first", x.ball(0, 0), 5);
+        for (int kind = 0; kind < 5; kind++) {
+            Due.is("at most one", x.ball(0, 20 + kind), 1);
+        }
         for (int kind = 0; kind < 5; kind++) {
             Due.is("weight", x.weight(kind, 20), true);
         }

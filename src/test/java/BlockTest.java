@@ -91,9 +91,7 @@ public final class BlockTest {
             java.util.Arrays.fill(greatest, -1);
             goThrough(0, base.clone());
             ClayHouse x = new ClayHouse();
-            for (int i = 3; i >= 3; i--) {
-                Due.is("drop e", x.step(2, 3, 0), true);
-            }
+            Due.is("drop e", x.step(2, 3, 0), true);
             for (int i = 0; i < 3; i++) {
                 Due.is("step", x.step(2, i, STEPS[i]), true);
             }

@@ -33,6 +33,11 @@ public final class LoanTest {
         Due.is("stays", x.owed(0, 1, 0), 2000);
         Due.is("0", x.interest(2, 0), true);
         Due.is("none", x.owed(0, 99, 0), 1000);
+        ClayHouse y = withPerson();
+        for (int g = 0; g < 8; g++) {
+            y.loan(0, g, 100);
+            Due.is("33 of all goods", y.owed(g, 1, 0), 133);
+        }
     }
 
     private static void loans() {
@@ -158,6 +163,16 @@ public final class LoanTest {
         Due.is("stays", x.owed(2, 3, 3), 13);
         for (int i = 2; i < 99; i++) {
             x.year();
+        }
+        ClayHouse y = new ClayHouse();
+        for (int year = 0; year < 100; year += 99) {
+            for (int g = 0; g < 8; g++) {
+                Due.is("each good", y.edict(g), true);
+                Due.is("each good once", y.edict(g), false);
+            }
+            for (int i = 0; i < 99; i++) {
+                y.year();
+            }
         }
         Due.is("in the last year", x.edict(5), true);
         Due.is("0 in the last year", x.owed(1, 99, 99), 0);

@@ -29,6 +29,8 @@ public final class NumbersTest {
             Due.is("worth of b", x.written(system, 3599, 1), 5);
             Due.is("worth of a", x.written(system, 3599, 0), 9);
             Due.is("no f", x.written(system, 3599, 5), -1);
+            Due.is("no step behind the last one", x.step(system, 4, 0), false);
+            Due.is("the last step", x.step(system, 3, 0), true);
         }
     }
 
@@ -92,6 +94,13 @@ public final class NumbersTest {
         Due.is("c is worth 70", x.written(0, 3600, 2), 51);
         Due.is("b below it", x.written(0, 3600, 1), 3);
         Due.is("step -1 drops none", x.step(0, 1, -1), false);
+        ClayHouse y = new ClayHouse();
+        for (int i = 0; i < 5; i++) {
+            Due.is("step 2", y.step(3, i, 2), true);
+        }
+        Due.is("f is worth 32", y.written(3, 65, 5), 2);
+        Due.is("six at most", y.step(3, 5, 2), false);
+        Due.is("no g", y.written(3, 65, 6), -1);
     }
 
     private static void worthLimit() {
@@ -109,7 +118,14 @@ public final class NumbersTest {
         Due.is("36000", y.step(1, 1, 60), true);
         Due.is("216000", y.step(1, 2, 60), false);
         Due.is("97200", y.step(1, 2, 27), true);
-        // 99999 itself: 3 * 3 * 41 * 271 has no STEP for 271, so 99960 = 60 * 49 * 34 stands for the edge.
+        ClayHouse w = new ClayHouse();
+        Due.is("two signs", w.step(0, 3, 0) && w.step(0, 2, 0) && w.step(0, 1, 0), true);
+        Due.is("61 is no step, however small the worth", w.step(0, 0, 61), false);
+        Due.is("50", w.step(0, 0, 50), true);
+        Due.is("50 50", w.step(0, 1, 50), true);
+        Due.is("100000", w.step(0, 2, 40), false);
+        Due.is("97500", w.step(0, 2, 39), true);
+        // No STEPS make 99999 (3 * 3 * 41 * 271): 99960 is near it.
         ClayHouse z = new ClayHouse();
         Due.is("drop e", z.step(0, 3, 0), true);
         Due.is("a", z.step(0, 0, 49), true);

@@ -62,6 +62,15 @@ public final class TabletTest {
         Due.tabletFault(x, 0, "In good 0 1 a;", 1, 0);
         Due.tabletFault(x, 0, "in good 0 1 ab;", 1, 12);
         Due.tabletFault(x, 0, "in good 0 1 g;", 1, 12);
+        Due.tabletFault(x, 0, "in good 0 1 az;", 1, 12);
+        Due.tabletFault(x, 0, "in good 0 1 aA;", 1, 12);
+        Due.tabletFault(x, 0, "in good 0 1 aZ;", 1, 12);
+        Due.tabletFault(x, 0, "in good 0 1 a`;", 1, 13);
+        Due.tabletFault(x, 0, "in good 0 1 a{;", 1, 13);
+        Due.tabletFault(x, 0, "in good 0 1 a@;", 1, 13);
+        Due.tabletFault(x, 0, "in good 0 1 a[;", 1, 13);
+        Due.tabletFault(x, 0, "in good 0 1:a;", 1, 11);
+        Due.tabletFault(x, 0, "in good 0 1/a;", 1, 11);
         Due.tabletFault(x, 0, "in good 0 1 A;", 1, 12);
         Due.tabletFault(x, 0, "in\tgood 0 1 a;", 1, 2);
         Due.tabletFault(x, 0, "in good 0 1 a;\r", 1, 14);
@@ -225,15 +234,16 @@ public final class TabletTest {
         Due.tablet(x, 1, "out good 2 1a;sum good 2 lost;sum good 3 1a;", 3);
         Due.is("below 0", x.line(1, 0, 4), 0);
         Due.is("a sum alone", x.line(1, 2, 4), 0);
-        // What is lost may not be above 99999.
+        // What is lost may not be above 99999: 27e 4d 6c 3b 9a are just that.
         Due.tablet(x, 2, "out good 4 lost;in good 4 27e 4d 6c 3b 9a;sum good 4 0a;", 3);
-        Due.is("98679 is not above", x.line(2, 0, 2), 27 * 3600 + 4 * 600 + 6 * 60 + 39);
-        Due.tablet(x, 2, "out good 4 lost;in good 4 27e 4d 6c 3b 9a;in good 4 2d 1c 5b 9a;in good 4 1a;sum good 4 0a;", 5);
-        Due.is("fills", x.line(2, 0, 4), 0 + (27 * 3600 + 2400 + 360 + 39 + 1200 + 60 + 59 + 1 <= 99999 ? 1 : 0));
-        Due.tablet(x, 2, "out good 4 lost;in good 4 28e;sum good 4 0a;", 3);
-        Due.is("100800 is above", x.line(2, 0, 4), 0);
-        Due.tablet(x, 2, "out good 4 lost;in good 4 27e 4d 6c 3b 9a;sum good 4 0a; in good 5 lost;sum good 5 27e 4d 6c 3b 9a;", 5);
-        Due.is("fills", x.line(2, 3, 4), 1);
+        Due.is("99999 is not above", x.line(2, 0, 2), 99999);
+        Due.is("one fill", x.line(2, 0, 4), 1);
+        Due.tablet(x, 2, "out good 4 lost;in good 4 27e 4d 6c 3b 9a;in good 4 1a;sum good 4 0a;", 4);
+        Due.is("100000 is above", x.line(2, 0, 4), 0);
+        Due.tablet(x, 2, "in good 5 lost;sum good 5 27e 4d 6c 3b 9a;", 2);
+        Due.is("by the sum", x.line(2, 0, 3), 99999);
+        Due.tablet(x, 2, "in good 5 lost;out good 5 1a;sum good 5 27e 4d 6c 3b 9a;", 3);
+        Due.is("above", x.line(2, 0, 4), 0);
     }
 
     private static void fills() {
