@@ -748,14 +748,16 @@ public final class ClayHouse {
             if (isMark && marks[blocks[line]] >= MARKS) {
                 return tape.fail(Tape.TOO_MANY);
             }
-            if (!isMark && numbers.hasSign(system, sign) && count > numbers.mostOf(system, sign)) {
+            // A SIGN that can't be there is a FAULT itself, and no COUNT is held against it.
+            boolean signCanBe = numbers.hasSign(system, sign) && sign < signAhead;
+            if (!isMark && signCanBe && count > numbers.mostOf(system, sign)) {
                 return tape.fail(Tape.NOT_ALLOWED);
             }
             tape.move();
             if (sign == NONE) {
                 return tape.fail(Tape.CANT_STAND);
             }
-            if (!numbers.hasSign(system, sign) || sign >= signAhead) {
+            if (!signCanBe) {
                 return tape.fail(Tape.NOT_ALLOWED);
             }
             int worth = numbers.worthOf(system, sign);

@@ -141,9 +141,19 @@ public final class TabletTest {
         Due.tabletFault(x, 0, "in good 0 1000 f;", 2, 15);
         Due.tabletFault(x, 0, "in good 0 1000;", 1, 14);
         Due.tabletFault(x, 0, "in good 0 1000 good;", 1, 15);
-        // A SIGN not lesser than that ahead is one that the SYSTEM has: the COUNT is held against it.
-        Due.tabletFault(x, 0, "in good 0 1 a 9 b;", 2, 14);
+        // Nor against a SIGN that is not lesser than the one ahead: the FAULT is at that SIGN.
+        Due.tabletFault(x, 0, "in good 0 1 a 9 b;", 2, 16);
         Due.tabletFault(x, 0, "in good 0 1 a 5 b;", 2, 16);
+        Due.tabletFault(x, 0, "in good 0 1 b 6 b;", 2, 16);
+        Due.tabletFault(x, 0, "in good 0 1 a 9999 e;", 2, 19);
+        Due.tabletFault(x, 0, "in good 0 1 a 9999 f;", 2, 19);
+        Due.tabletFault(x, 0, "in good 0 ? a 10 a;", 2, 17);
+        Due.tabletFault(x, 0, "in good 0 5 b 2 a 9 b;", 2, 20);
+        // A SIGN that can be there: the COUNT is held against it, and the FAULT is at the COUNT.
+        Due.tabletFault(x, 0, "in good 0 1 c 6 b;", 2, 14);
+        Due.tabletFault(x, 0, "in good 0 ? b 10 a;", 2, 14);
+        Due.tabletFault(x, 0, "in good 0 1 c 6 b 9 d;", 2, 14);
+        Due.tablet(x, 0, "in good 0 1 c 5 b;", 1);
     }
 
     private static void tooMany() {
