@@ -7,6 +7,7 @@ public final class BallTest {
         weighed();
         opened();
         lies();
+        askedInAnyOrder();
         againstAllCounts();
         Due.done();
     }
@@ -101,6 +102,9 @@ public final class BallTest {
         Due.is("one way", x.ball(0, 0), 1);
         Due.is("weighed none", x.tell(0, 1, -1), true);
         Due.is("all ways", x.ball(0, 0), 100000);
+        Due.is("weighed none again", x.tell(0, 1, -1), true);
+        Due.is("rattled none, as it was", x.tell(0, 0, -1), true);
+        Due.is("all ways", x.ball(0, 0), 100000);
         // Both agree: two tokens that weigh 39 together.
         Due.is("rattled", x.tell(0, 0, 2), true);
         Due.is("weighed", x.tell(0, 1, 39), true);
@@ -147,6 +151,26 @@ public final class BallTest {
         Due.is("rattled 10", x.tell(0, 0, 10), true);
         Due.is("weighed 14", x.tell(0, 1, 14), true);
         Due.is("one for another", x.ball(0, 1), 2);
+    }
+
+    // What was asked of one BALL, or of what is in an OPENED one, is nothing to another.
+    private static void askedInAnyOrder() {
+        ClayHouse x = new ClayHouse();
+        Due.is("opened", x.tell(0, 14, 7), true);
+        Due.is("heavier", x.weight(4, 6), true);
+        Due.is("rattled", x.tell(1, 0, 3), true);
+        Due.is("weighed", x.tell(2, 1, 2), true);
+        Due.is("greatest of 0", x.ball(0, 24), 7);
+        Due.is("greatest of 1", x.ball(1, 24), 3);
+        Due.is("greatest of 0", x.ball(0, 20), 0);
+        Due.is("greatest of 2", x.ball(2, 20), 2);
+        Due.is("least of 0", x.ball(0, 14), 7);
+        Due.is("least of 1", x.ball(1, 14), 0);
+        Due.is("lies of 0", x.ball(0, 1), 7);
+        Due.is("ways of 2", x.ball(2, 0), 10);
+        Due.is("lies of 2", x.ball(2, 1), 2);
+        Due.is("ways of 0", x.ball(0, 0), 1);
+        Due.is("ways of 1", x.ball(1, 0), 35);
     }
 
     private static void againstAllCounts() {

@@ -79,6 +79,8 @@ public final class FlockTest {
         Due.is("lambs", x.found(0, 2, 1, 1, -1), false);
         Due.is("lambs", x.found(0, 2, 1, 1, 10000), false);
         Due.is("nothing was done", x.flockAt(0, 2, 3, 0), 10 + 5 - 1);
+        Due.is("the year behind its own", x.found(0, 2, 0, 0, 0), true);
+        Due.is("nothing there", x.flockAt(0, 2, 3, 0) + x.flockAt(0, 2, 3, 1) + x.flockAt(0, 2, 3, 2), 0);
         Due.is("now", x.found(0, 3, 9999, 9999, 9999), true);
         Due.is("there", x.flockAt(0, 3, 3, 2), 9999);
     }

@@ -45,6 +45,9 @@ public final class NumbersTest {
         Due.is("9999999 of a", x.written(0, 9999999, 0), 9);
         Due.is("too great", x.written(0, 10000000, 0), -1);
         Due.is("too small", x.written(0, -1, 0), -1);
+        Due.is("too small for b", x.written(0, -1, 1), -1);
+        Due.is("too small for e", x.written(0, -1, 4), -1);
+        Due.is("too great for e", x.written(0, 10000000, 4), -1);
         Due.is("sign -1", x.written(0, 1, -1), -1);
         Due.is("system -1", x.written(-1, 1, 0), -1);
         Due.is("system 4", x.written(4, 1, 0), -1);
@@ -94,6 +97,9 @@ public final class NumbersTest {
         Due.is("c is worth 70", x.written(0, 3600, 2), 51);
         Due.is("b below it", x.written(0, 3600, 1), 3);
         Due.is("step -1 drops none", x.step(0, 1, -1), false);
+        Due.is("no such system drops", x.step(-1, 1, 0) || x.step(4, 1, 0), false);
+        Due.is("no such i drops", x.step(0, -1, 0) || x.step(0, 2, 0) || x.step(0, 0, 0), false);
+        Due.is("c stays", x.written(0, 3600, 2), 51);
         ClayHouse y = new ClayHouse();
         for (int i = 0; i < 5; i++) {
             Due.is("step 2", y.step(3, i, 2), true);
@@ -125,7 +131,24 @@ public final class NumbersTest {
         Due.is("50 50", w.step(0, 1, 50), true);
         Due.is("100000", w.step(0, 2, 40), false);
         Due.is("97500", w.step(0, 2, 39), true);
-        // No STEPS make 99999 (3 * 3 * 41 * 271): 99960 is near it.
+        // 99981 is the greatest that STEPS make below 100000, which is 50 * 50 * 40.
+        ClayHouse v = new ClayHouse();
+        Due.is("27 23 23", v.step(0, 0, 27) && v.step(0, 3, 2) && v.step(0, 1, 23) && v.step(0, 2, 23), true);
+        Due.is("99981", v.step(0, 3, 7), true);
+        Due.is("114264", v.step(0, 3, 8), false);
+        Due.is("an f of twice as much", v.step(0, 4, 2), false);
+        Due.is("e", v.written(0, 99981, 4), 1);
+        ClayHouse u = new ClayHouse();
+        Due.is("without d and e", u.step(0, 3, 0) && u.step(0, 2, 0), true);
+        Due.is("50 50", u.step(0, 0, 50) && u.step(0, 1, 50), true);
+        Due.is("100000 by a SIGN more", u.step(0, 2, 40), false);
+        Due.is("no d came", u.written(0, 1, 3), -1);
+        Due.is("50 50 39", u.step(0, 2, 39), true);
+        Due.is("100000 by the last STEP", u.step(0, 2, 40), false);
+        Due.is("99450 by the first STEP", u.step(0, 0, 51), true);
+        Due.is("101400 by the first STEP", u.step(0, 0, 52), false);
+        Due.is("d", u.written(0, 99450, 3), 1);
+        // 99960 by three STEPS.
         ClayHouse z = new ClayHouse();
         Due.is("drop e", z.step(0, 3, 0), true);
         Due.is("a", z.step(0, 0, 49), true);

@@ -9,6 +9,7 @@ public final class RulesTest {
         wrapping();
         limitsOfE();
         conditions();
+        everyByte();
         cantStand();
         notAllowed();
         tooMany();
@@ -134,6 +135,21 @@ public final class RulesTest {
         ask(x, "0-6620*7*6620*7-9999*9999", 9999);
         when(x, "6620*7*6620*7+9999*9999<0", true);
         when(x, "9999*9999*22<0-1", true);
+        // 2 to the 31 is the least Int; less by 1 it is the greatest, and 0 less it is the least again.
+        String least = "8192*8192*32";
+        when(x, least + "<0", true);
+        when(x, least + "-1>0", true);
+        ask(x, least + "-1", 9999);
+        ask(x, least, 0);
+        when(x, "0-" + least + "=" + least, true);
+        when(x, least + "/1=" + least, true);
+        when(x, least + "+" + least + "=0", true);
+        when(x, least + "-1+1=" + least, true);
+        // Towards 0: -214769.8 becomes -214769.
+        when(x, least + "/9999=0-2147*100-69", true);
+        when(x, least + "/9999=0-2147*100-70", false);
+        ask(x, least + "*2+7", 7);
+        ask(x, least + "*3/8192/8192/2+20", 4);
     }
 
     private static void limitsOfE() {
@@ -185,6 +201,42 @@ public final class RulesTest {
         when(x, "(1=1) and (1=1) and (1=1) and (1=1) and (1=1) and (1=1) and (1=1) and (1=1) and (1=1)", true);
         when(x, "not 1=2 and not 1=2 and not 1=2 and not 1=2 and not 1=2 and not 1=2 and not 1=2 and not 1=2"
                 + " and not 1=2 and not 1=2", true);
+    }
+
+    private static void everyByte() {
+        for (char c = 0; c < 256; c++) {
+            ClayHouse x = withPerson(0, 0);
+            boolean blank = c == ' ' || c == '\n';
+            boolean digit = c >= '0' && c <= '9';
+            String behindE = "give 1" + c + "good 0;";
+            if (blank || digit) {
+                Due.rules(x, behindE, 1);
+                Due.is("E", x.ration(0, 0, 0), digit ? 10 + c - '0' : 1);
+            } else {
+                Due.rulesFault(x, behindE, 1, "+-*/".indexOf(c) >= 0 ? 7 : 6);
+            }
+            String asUnit = "give " + c + " good 0;";
+            if (digit) {
+                Due.rules(x, asUnit, 1);
+            } else {
+                Due.rulesFault(x, asUnit, 1, blank ? 7 : 5);
+            }
+            String asSign = "give 5 good 0 when 1 " + c + " 1;";
+            if (c == '<' || c == '=' || c == '>') {
+                Due.rules(x, asSign, 1);
+                Due.is("B", x.ration(0, 0, 0), c == '=' ? 5 : 0);
+            } else if ("+-*/".indexOf(c) >= 0) {
+                Due.rulesFault(x, asSign, 1, 24);
+            } else {
+                Due.rulesFault(x, asSign, 1, blank ? 23 : 21);
+            }
+            String asC = "give 5 good 0 when " + c + " 1=1);";
+            if (c == '(') {
+                Due.rules(x, asC, 1);
+            } else {
+                Due.rulesFault(x, asC, 1, digit ? 21 : blank ? 24 : 19);
+            }
+        }
     }
 
     private static void cantStand() {
@@ -301,6 +353,9 @@ public final class RulesTest {
         Due.is("none left", x.look(10), 0);
         Due.is("all short", x.look(7), 16);
         Due.is("no days", x.ration(0, 1, 4) + x.ration(1, 1, 4), 0);
+        Due.rules(x, "give 3-days good 1; give days+3 good 2; give age good 0;", 3);
+        Due.is("just no days", x.ration(0, 1, 4) + x.ration(1, 2, 4), 6);
+        Due.rules(x, "give age good 0; give days good 1 when month = 4;", 2);
         Due.is("short by 30", x.month(5), 30);
         Due.is("all short", x.look(7), 46);
         Due.is("a month that can't be", x.month(12), -1);

@@ -3,8 +3,10 @@ public final class TabletTest {
     public static void main(String[] args) {
         lines();
         tokens();
+        everyByte();
         cantStand();
         notAllowed();
+        everyCount();
         countAgainstSignBehind();
         tooMany();
         firstByPlace();
@@ -79,6 +81,40 @@ public final class TabletTest {
         Due.tabletFault(x, 0, "in good 0 1 a;\u00e9", 1, 14);
     }
 
+    // Only 32 and 10 are blanks; no byte is a TOKEN by the number that it has.
+    private static void everyByte() {
+        for (char c = 0; c < 256; c++) {
+            ClayHouse x = new ClayHouse();
+            boolean blank = c == ' ' || c == '\n';
+            boolean digit = c >= '0' && c <= '9';
+            String ahead = c + "in good 0 1 a;";
+            String within = "in good 0 1" + c + "a;";
+            String behind = "in good 0 1 a;" + c;
+            if (blank) {
+                Due.tablet(x, 0, ahead, 1);
+                Due.tablet(x, 0, within, 1);
+                Due.tablet(x, 0, behind, 1);
+            } else {
+                Due.tabletFault(x, 0, ahead, 1, 0);
+                Due.tabletFault(x, 0, within, digit ? 2 : 1, digit ? 10 : 11);
+                Due.tabletFault(x, 0, behind, 1, 14);
+            }
+            Due.tabletFault(x, 0, c + " good 0 1 a;", 1, blank ? 2 : 0);
+            String asSign = "in good 0 1 " + c + ";";
+            if (c >= 'a' && c <= 'e') {
+                Due.tablet(x, 0, asSign, 1);
+            } else {
+                Due.tabletFault(x, 0, asSign, c == 'f' ? 2 : 1, blank ? 13 : 12);
+            }
+            String asCount = "in good 0 " + c + " a;";
+            if (digit || c == '?') {
+                Due.tablet(x, 0, asCount, 1);
+            } else {
+                Due.tabletFault(x, 0, asCount, 1, blank ? 12 : 10);
+            }
+        }
+    }
+
     private static void cantStand() {
         ClayHouse x = new ClayHouse();
         Due.tabletFault(x, 0, ";", 1, 0);
@@ -133,6 +169,39 @@ public final class TabletTest {
         Due.is("999", x.line(1, 0, 2), 999);
         Due.tabletFault(x, 1, "in good 5 1c;", 2, 11);
         Due.tabletFault(x, 1, "in good 5 100b;", 2, 10);
+    }
+
+    private static void everyCount() {
+        ClayHouse first = new ClayHouse();
+        int[] atFirst = {9, 5, 9, 5, 99};
+        for (int i = 0; i < 5; i++) {
+            countsOf(first, 0, i, atFirst[i]);
+        }
+        ClayHouse x = new ClayHouse();
+        Due.is("one good by it", x.good(7, 3), true);
+        int[] steps = {2, 60, 3, 59, 4};
+        Due.is("small ones first", x.step(3, 0, 2) && x.step(3, 2, 3) && x.step(3, 3, 2) && x.step(3, 4, 4), true);
+        Due.is("then the others", x.step(3, 1, 60) && x.step(3, 3, 59), true);
+        for (int i = 0; i < 5; i++) {
+            countsOf(x, 7, i, steps[i] - 1);
+        }
+        countsOf(x, 7, 5, 99);
+    }
+
+    // The last COUNT of a SIGN that can be, the first that can't, and what a ? of it may be.
+    private static void countsOf(ClayHouse x, int good, int i, int most) {
+        char sign = "abcdef".charAt(i);
+        String line = "in good " + good + " ";
+        Due.tablet(x, 0, line + most + sign + ";", 1);
+        long worth = x.line(0, 0, 2);
+        Due.tabletFault(x, 0, line + (most + 1) + sign + ";", 2, 10);
+        Due.tabletFault(x, 0, line + 9999 + sign + ";", 2, 10);
+        Due.tablet(x, 0, line + 0 + sign + ";", 1);
+        Due.is("0", x.line(0, 0, 3), 0);
+        Due.tablet(x, 0, line + "?" + sign + ";", 1);
+        Due.is("least", x.line(0, 0, 2), 0);
+        Due.is("greatest", x.line(0, 0, 3), worth);
+        Due.is("fills", x.line(0, 0, 4), most + 1);
     }
 
     private static void countAgainstSignBehind() {
