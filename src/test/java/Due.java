@@ -53,6 +53,8 @@ final class Due {
         is("tablet " + text, x.tablet(k), -1);
         is("fault(0) of " + text, x.fault(0), fault);
         is("fault(1) of " + text, x.fault(1), place);
+        is("fault(2) of " + text, x.fault(2), -1);
+        is("fault(-1) of " + text, x.fault(-1), -1);
         is("the tape is empty behind " + text, x.end(1), false);
     }
 

@@ -12,15 +12,17 @@ public final class FaultTest {
     private static final int[][] STEPS = {{10, 6, 10, 6}, {4, 7}};
 
     public static void main(String[] args) {
-        int read = 0;
+        int[] met = new int[4];
         for (int run = 0; run < 4000; run++) {
-            read += compare(written()) ? 1 : 0;
+            met[compare(written())]++;
         }
-        Due.is("some are read, some are not", read > 400 && read < 3600, true);
+        for (int fault = 0; fault < 4; fault++) {
+            Due.is("FAULT " + fault + " is met often: " + met[fault], met[fault] > 100, true);
+        }
         Due.done();
     }
 
-    private static boolean compare(String text) {
+    private static int compare(String text) {
         ClayHouse x = new ClayHouse();
         x.step(1, 3, 0);
         x.step(1, 2, 0);
@@ -33,7 +35,7 @@ public final class FaultTest {
         } else {
             Due.tabletFault(x, 0, text, reading.fault, reading.place);
         }
-        return reading.fault == 0;
+        return reading.fault;
     }
 
     private static String written() {

@@ -309,6 +309,14 @@ public final class TabletTest {
         Due.is("no span", x.line(0, 3, 2), -1);
         Due.is("a quarrel counts 0", x.stock(0, 0, 1), 6);
         Due.is("a quarrel counts 0", x.stock(1, 0, 1), 0);
+        // What QUARRELS is the BLOCK alone, not the LINES of another one between its own and behind.
+        Due.tablet(x, 5, "in good 6 ?a;in good 7 5a;out good 6 2a;in good 5 3a;sum good 7 4a;sum good 6 1a;", 6);
+        int[] spans = {3, -1, 2, 3, -1, 1};
+        for (int i = 0; i < spans.length; i++) {
+            Due.is("least", x.line(5, i, 2), spans[i]);
+            Due.is("greatest", x.line(5, i, 3), spans[i]);
+            Due.is("fills", x.line(5, i, 4), spans[i] == -1 ? 0 : 1);
+        }
         // More went out than came in: no sum is below 0.
         Due.tablet(x, 1, "out good 2 1a;sum good 2 lost;sum good 3 1a;", 3);
         Due.is("below 0", x.line(1, 0, 4), 0);
