@@ -9,6 +9,8 @@ public final class ClayHouse {
     private static final int GOODS = 8;
     private static final int LONGEST_SIDE = 999;
     private static final long NO_STOCK = -99999999999L;
+    // Above all that is compared with it.
+    private static final int GREATEST_INT = 2147483647;
 
     private final Numbers numbers;
     private final Tape tape;
@@ -837,7 +839,7 @@ public final class ClayHouse {
                 if (blocks[line] == block) {
                     boolean known = line != lostLine[block] && line != markLine[MARKS * block]
                             && line != markLine[MARKS * block + 1];
-                    least[line] = known ? bases[line] : Integer.MAX_VALUE;
+                    least[line] = known ? bases[line] : GREATEST_INT;
                     greatest[line] = known ? bases[line] : NONE;
                 }
             }
@@ -1319,7 +1321,7 @@ public final class ClayHouse {
                 int rest = set & ~(1 << f);
                 if (rest != set) {
                     int slot = set * MOST + f;
-                    gaps[slot] = rest == 0 ? 0 : Integer.MAX_VALUE;
+                    gaps[slot] = rest == 0 ? 0 : GREATEST_INT;
                     ways[slot] = rest == 0 ? 1 : 0;
                     for (int g = 0; g < count; g++) {
                         if ((rest >> g & 1) != 0) {
@@ -1349,7 +1351,7 @@ public final class ClayHouse {
         }
 
         private int leastGaps(int set) {
-            int best = Integer.MAX_VALUE;
+            int best = GREATEST_INT;
             for (int f = 0; f < count; f++) {
                 if ((set >> f & 1) != 0) {
                     best = Math.min(best, gaps[set * MOST + f]);

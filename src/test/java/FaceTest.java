@@ -52,6 +52,9 @@ public final class FaceTest {
         for (Field field : ClayHouse.class.getDeclaredFields()) {
             boolean face = field.getName().equals("NONE");
             Due.is("field " + field, face == !Modifier.isPrivate(field.getModifiers()), true);
+            if (face) {
+                Due.is("the constant", field.toString().equals("public static final int ClayHouse.NONE"), true);
+            }
         }
         Constructor<?>[] constructors = ClayHouse.class.getDeclaredConstructors();
         Due.is("one constructor", constructors.length, 1);
