@@ -186,6 +186,29 @@ public final class TabletTest {
             countsOf(x, 7, i, steps[i] - 1);
         }
         countsOf(x, 7, 5, 99);
+        everyCountOfFewSigns();
+    }
+
+    // Each SYSTEM with each number of SIGNS, by STEPS that tell a SIGN and a SYSTEM from another.
+    private static void everyCountOfFewSigns() {
+        ClayHouse x = new ClayHouse();
+        for (int system = 0; system < 4; system++) {
+            Due.is("a good for it", x.good(system + 2, system), true);
+            Due.is("an f", x.step(system, 4, 2), true);
+            for (int i = 0; i < 5; i++) {
+                Due.is("step", x.step(system, i, 3 + i + system / 2), true);
+            }
+            for (int signs = 6; signs >= 2; signs--) {
+                for (int i = 0; i < signs; i++) {
+                    countsOf(x, system + 2, i, i == signs - 1 ? 99 : 2 + i + system / 2);
+                }
+                if (signs < 6) {
+                    char gone = "abcdef".charAt(signs);
+                    Due.tabletFault(x, 0, "in good " + (system + 2) + " 1 " + gone + ";", 2, 12);
+                }
+                Due.is("drop the last one", x.step(system, signs - 2, 0), signs > 2);
+            }
+        }
     }
 
     // The last COUNT of a SIGN that can be, the first that can't, and what a ? of it may be.
